@@ -15,15 +15,23 @@ final class Check {
     static final String STATE = "throws.IllegalStateException";
 
     private static int wrong = 0;
+    private static int sentences = 0;
+    private static String sentence = "";
 
     private Check() {
+    }
+
+    /** What follows tests this sentence of the document. */
+    static void sentence(String text) {
+        sentences++;
+        sentence = "'" + text + "': ";
     }
 
     static void due(String name, Object want, Call call) {
         String got = told(call);
         if (!got.equals(String.valueOf(want))) {
             wrong++;
-            System.out.println(name + " answered " + got + ", due is " + want);
+            System.out.println(sentence + name + " answered " + got + ", due is " + want);
         }
     }
 
@@ -43,37 +51,49 @@ final class Check {
         }
     }
 
-    /** Everything that can be asked of an object with so many masts and phones, without a change to it. */
-    static String state(Mastline line, int masts, int phones) {
+    /** ON, carried, units, of the grid, traffic, end of the lease. */
+    static String mast(Mastline line, int mast) {
+        return line.ofMast(mast, 0) + " " + line.ofMast(mast, 1) + " " + line.ofMast(mast, 2) + " "
+                + line.ofMast(mast, 3) + " " + line.ofMast(mast, 4) + " " + line.ofMast(mast, 5);
+    }
+
+    /** Place, mast, BLOCKED, DROPPED, handed over. */
+    static String phone(Mastline line, int phone) {
+        return line.ofPhone(phone, 0) + " " + line.ofPhone(phone, 1) + " " + line.ofPhone(phone, 2) + " "
+                + line.ofPhone(phone, 3) + " " + line.ofPhone(phone, 4);
+    }
+
+    /** What the farmers 0 to 5 were paid. */
+    static String paid(Mastline line) {
+        return line.paid(0) + " " + line.paid(1) + " " + line.paid(2) + " " + line.paid(3) + " " + line.paid(4)
+                + " " + line.paid(5);
+    }
+
+    /** Everything that can be asked of an object without a change to it. */
+    static String state(Mastline line) {
         StringBuilder all = new StringBuilder();
-        for (int mast = 0; mast < masts; mast++) {
-            all.append("mast ").append(mast).append(':');
-            for (int what = 0; what < 6; what++) {
-                all.append(' ').append(line.ofMast(mast, what));
-            }
-            all.append(" anew ").append(line.trafficAnew(mast)).append('\n');
+        for (int mast = 0; mast <= 8; mast++) {
+            int m = mast;
+            all.append("mast ").append(m).append(": ").append(told(() -> mast(line, m)));
+            all.append(" anew ").append(told(() -> line.trafficAnew(m))).append('\n');
         }
-        for (int phone = 0; phone < phones; phone++) {
-            all.append("phone ").append(phone).append(':');
-            for (int what = 0; what < 5; what++) {
-                all.append(' ').append(line.ofPhone(phone, what));
-            }
-            all.append(" strength ").append(line.strength(phone)).append('\n');
+        for (int phone = 0; phone <= 12; phone++) {
+            int p = phone;
+            all.append("phone ").append(p).append(": ").append(told(() -> phone(line, p)));
+            all.append(" strength ").append(told(() -> line.strength(p))).append('\n');
         }
-        for (int farmer = 0; farmer < 6; farmer++) {
-            all.append("paid ").append(line.paid(farmer)).append('\n');
-        }
+        all.append("paid ").append(told(() -> paid(line))).append('\n');
         int sun = line.sun(0);
         line.sun(sun);
         all.append("sun ").append(sun).append('\n');
         all.append("holes ").append(line.holes()).append('\n');
-        all.append("mast beyond: ").append(told(() -> line.ofMast(masts, 0))).append('\n');
-        all.append("phone beyond: ").append(told(() -> line.ofPhone(phones, 0))).append('\n');
         return all.toString();
     }
 
     static void end(String test) {
-        System.out.println(test + ": " + (wrong == 0 ? "all answers are as due" : wrong + " answers are not as due"));
+        String of = sentences == 0 ? "" : " of " + sentences + " sentences";
+        System.out.println(test + ": " + (wrong == 0 ? "all answers" + of + " are as due"
+                : wrong + " answers are not as due"));
         if (wrong != 0) {
             System.exit(1);
         }

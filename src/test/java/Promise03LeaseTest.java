@@ -86,11 +86,11 @@ public final class Promise03LeaseTest {
         Mastline line = withMast();
         line.lease(0, 0, 1, 5, 5, 10, 2);
         line.pass(1);
-        String before = Check.state(line, 1, 0);
+        String before = Check.state(line);
         dueLease(line, new int[] {0, 2, 3, 1, 9, 99, 9}, Check.STATE);
         dueLease(line, new int[] {0, 2, 3, 1, 0, 99, 9}, Check.ARGUMENT);
         dueLease(line, new int[] {1, 2, 3, 1, 9, 99, 9}, Check.BOUNDS);
-        Check.due("the state after leases that throw", before, () -> Check.state(line, 1, 0));
+        Check.due("the state after leases that throw", before, () -> Check.state(line));
         line.pass(1);
         Check.due("the rents stay those of the first lease", "10 10 0 0", () -> line.paid(0) + " " + line.paid(1)
                 + " " + line.paid(2) + " " + line.paid(3));

@@ -20,12 +20,12 @@ public final class Promise07EndTest {
         Check.due("no mast carries it", -1, () -> line.ofPhone(1, 1));
         Check.due("an end is not DROPPED", 0, () -> line.ofPhone(1, 3));
         Check.due("a BLOCKED call", Check.STATE, () -> line.end(2));
-        String before = Check.state(line, 2, 3);
+        String before = Check.state(line);
         for (int wrong : new int[] {-1, 3, 12, Integer.MIN_VALUE, Integer.MAX_VALUE}) {
             Check.due("end(" + wrong + ")", Check.BOUNDS, () -> line.end(wrong));
         }
         Check.due("end of no call", Check.STATE, () -> line.end(1));
-        Check.due("the state after ends that throw", before, () -> Check.state(line, 2, 3));
+        Check.due("the state after ends that throw", before, () -> Check.state(line));
         Check.due("it may call again", 1, () -> line.call(1));
         line.pass(3);
         Check.due("a DROPPED call", Check.STATE, () -> line.end(1));

@@ -72,7 +72,7 @@ public final class Promise08MoveTest {
         line.phone(20);
         line.phone(90);
         line.call(0);
-        String before = Check.state(line, 1, 2);
+        String before = Check.state(line);
         for (int wrong : new int[] {-1, 2, 12, Integer.MIN_VALUE, Integer.MAX_VALUE}) {
             Check.due("move(" + wrong + ", 20)", Check.BOUNDS, () -> line.move(wrong, 20));
             Check.due("move(" + wrong + ", 100)", Check.BOUNDS, () -> line.move(wrong, 100));
@@ -80,6 +80,6 @@ public final class Promise08MoveTest {
         for (int wrong : new int[] {-1, 100, Integer.MIN_VALUE, Integer.MAX_VALUE}) {
             Check.due("move(0, " + wrong + ")", Check.ARGUMENT, () -> line.move(0, wrong));
         }
-        Check.due("the state after moves that throw", before, () -> Check.state(line, 1, 2));
+        Check.due("the state after moves that throw", before, () -> Check.state(line));
     }
 }

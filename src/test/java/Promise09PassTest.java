@@ -24,12 +24,12 @@ public final class Promise09PassTest {
         line.mast(10, 5, 2, 0, 0, true);
         line.lease(0, 0, -1, 10, 10000, 1, 0);
         Check.due("pass(98)", 9999, () -> line.pass(98));
-        String before = Check.state(line, 1, 0);
+        String before = Check.state(line);
         Check.due("above 10000", Check.STATE, () -> line.pass(2));
         Check.due("far above 10000", Check.STATE, () -> line.pass(100));
         Check.due("out of range, near the last hour", Check.ARGUMENT, () -> line.pass(101));
         Check.due("out of range, far below", Check.ARGUMENT, () -> line.pass(-100));
-        Check.due("the state after passes that throw", before, () -> Check.state(line, 1, 0));
+        Check.due("the state after passes that throw", before, () -> Check.state(line));
         Check.due("to 10000", 10000, () -> line.pass(1));
         Check.due("from 10000", Check.STATE, () -> line.pass(1));
         Check.due("a lease to the last hour ends", -1, () -> line.ofMast(0, 5));

@@ -19,7 +19,7 @@ public final class Promise10OfMastTest {
         line.end(1);
         line.pass(1);
         dueAll(line, 1, new int[] {1, 1, 0, 19, 9, 88});
-        String before = Check.state(line, 2, 3);
+        String before = Check.state(line);
         for (int wrong : new int[] {-1, 6, Integer.MIN_VALUE, Integer.MAX_VALUE}) {
             Check.due("ofMast(0, " + wrong + ")", Check.ARGUMENT, () -> line.ofMast(0, wrong));
             Check.due("ofMast(2, " + wrong + ")", Check.BOUNDS, () -> line.ofMast(2, wrong));
@@ -27,7 +27,7 @@ public final class Promise10OfMastTest {
         for (int wrong : new int[] {-1, 2, 7, 8, Integer.MIN_VALUE, Integer.MAX_VALUE}) {
             Check.due("ofMast(" + wrong + ", 0)", Check.BOUNDS, () -> line.ofMast(wrong, 0));
         }
-        Check.due("the state after questions", before, () -> Check.state(line, 2, 3));
+        Check.due("the state after questions", before, () -> Check.state(line));
         Check.end("Promise10OfMastTest");
     }
 
