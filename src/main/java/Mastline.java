@@ -266,7 +266,7 @@ public final class Mastline {
     private Mast nearestFree(int place) {
         Mast nearest = null;
         for (Mast mast : masts) {
-            if (mast != null && mast.canTake(place)
+            if (mast != null && mast.isOn() && mast.hasRoom() && mast.covers(place)
                     && (nearest == null || mast.distanceTo(place) < nearest.distanceTo(place))) {
                 nearest = mast;
             }
@@ -405,8 +405,8 @@ public final class Mastline {
             return distanceTo(there) <= range;
         }
 
-        private boolean canTake(int there) {
-            return isOn() && covers(there) && carried < calls;
+        private boolean hasRoom() {
+            return carried < calls;
         }
 
         private void takePower(int sun) {
@@ -506,7 +506,7 @@ public final class Mastline {
         }
 
         private void add(int cameAt, int wentAt) {
-            if (isWithin(size, 0, LOG_BLOCK - 1)) {
+            if (size >= 0 && size < LOG_BLOCK) {
                 came[size] = cameAt;
                 went[size] = wentAt;
                 size++;
